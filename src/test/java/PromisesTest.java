@@ -40,6 +40,27 @@ public final class PromisesTest {
         return answer;
     }
 
+    /** All that the object tells of what undo and saving bring back, and how it would go on. */
+    private static String tale(EchoBids x) {
+        StringBuilder text = new StringBuilder();
+        for (int what = 0; what < 12; what++) {
+            text.append(x.count(what)).append(' ');
+            for (int number = 0; number < 8; number++) {
+                text.append(x.of(number, what)).append(' ').append(x.ofLot(number, what)).append(' ');
+            }
+        }
+        for (int ago = 0; ago < 41; ago++) {
+            for (int what = 0; what < 4; what++) {
+                text.append(x.made(ago, what)).append(' ');
+            }
+        }
+        text.append(x.shadows()).append(' ').append(x.dear()).append(' ').append(x.endsIn());
+        for (int lag = 0; lag < 6; lag++) {
+            text.append(' ').append(x.ifLag(lag)).append(' ').append(x.bestPlan(lag, 0)).append(' ').append(x.bestPlan(lag, 1));
+        }
+        return text.toString();
+    }
+
     private static void constants() {
         CHECK.part("constants");
         long[] got = {EchoBids.NO_SUCH, EchoBids.BAD_VALUE, EchoBids.BAD_TEXT, EchoBids.TOO_MANY,
@@ -715,6 +736,18 @@ public final class PromisesTest {
         x.lot(100);
         due("99 of 100", x.bestPlan(0, 0), 100);
         due("1", x.bestPlan(0, 1), 100001);
+        x = hall(0, 1, 1, 0);
+        x.bidder(100, 0);
+        x.lot(100);
+        due("1 needs the plan 1, which is no multiple of 10", x.bestPlan(0, 0), 10);
+        // Bidder 1 does best when it drives bidder 0 up to 1995, who has 5 left then for the lot of 100.
+        x = hall(0, 5, 1, 0);
+        x.bidder(2000, 200);
+        x.bidder(9999, 0);
+        x.lot(999);
+        x.lot(100);
+        due("the greatest plan", x.bestPlan(1, 0), 200);
+        due("100 less 10", x.bestPlan(1, 1), 100090);
     }
 
     private static void promise17() {
@@ -859,6 +892,91 @@ public final class PromisesTest {
         due("rounds", x.count(0), 3);
     }
 
+    /** A hall in the middle of its third lot, with bids, shadows and told bids. */
+    private static EchoBids busy() {
+        EchoBids x = hall(2, 3, 4, 1);
+        putAll(x, "+900*90;+800*120;+50*200;l40;l60;l90;l20;b0=30;t30;b1=77;t30;b2=9;t7");
+        x.carryOut();
+        x.bid(1, 55);
+        return x;
+    }
+
+    /** Another way that a hall may go on from any state: nearly all that it holds changes. */
+    private static void goOn(EchoBids x) {
+        x.set(EchoBids.LAG, 0);
+        x.set(EchoBids.STEP, 11);
+        x.set(EchoBids.QUIET, 1);
+        x.set(EchoBids.PRICE, 0);
+        x.plan(0, 3);
+        x.bidder(77, 100);
+        x.lot(5);
+        x.bid(0, 222);
+        x.pass(1);
+        x.bid(2, 333);
+        x.bid(1, 1);
+        x.pass(50);
+        x.bid(1, 9);
+    }
+
+    private static void undoesEachChange() {
+        CHECK.part("each change is undone");
+        EchoBids x = busy();
+        EchoBids same = busy();
+        for (int change = 0; change < 11; change++) {
+            // A round between two changes, so that no state that was recorded earlier is right by chance.
+            x.pass(1);
+            same.pass(1);
+            String before = tale(x);
+            x.save(0);
+            switch (change) {
+                case 0: x.bidder(1, 2); break;
+                case 1: x.plan(0, 1); break;
+                case 2: x.lot(999); break;
+                case 3: x.bid(0, 5); break;
+                case 4: x.pass(9); break;
+                case 5: putAll(x, "t1;+4*4;l4;b1=4;t40"); x.carryOut(); break;
+                case 6: x.pass(20); x.save(1); x.undo(); x.restore(1); break;
+                default: x.set(change - 7, change == 10 ? 0 : 5);
+            }
+            CHECK.holds("change " + change + " changes it", !tale(x).equals(before));
+            x.undo();
+            CHECK.holds("change " + change + " is undone", tale(x).equals(before));
+        }
+        goOn(x);
+        goOn(same);
+        CHECK.holds("it goes on as if nothing had been", tale(x).equals(tale(same)));
+    }
+
+    /** What was saved comes back over a state that is different everywhere. */
+    private static void restoresAll() {
+        CHECK.part("all of it is restored");
+        for (int first = 0; first < 2; first++) {
+            EchoBids x = new EchoBids();
+            x.lot(1);
+            putAll(x, "+1000*50;+2000*30;l40;l80;l160;t2");
+            x.carryOut();
+            x.save(0);
+            x.bid(0, 500);
+            x.pass(first == 0 ? 90 : 3);
+            x.save(1);
+            String one = tale(x);
+            x.restore(0);
+            goOn(x);
+            goOn(x);
+            String other = tale(x);
+            CHECK.holds("the two ways differ", !one.equals(other));
+            x.save(0);
+            x.restore(1);
+            CHECK.holds("the first way", tale(x).equals(one));
+            x.restore(0);
+            CHECK.holds("the other way", tale(x).equals(other));
+            x.undo();
+            CHECK.holds("the first way by undo", tale(x).equals(one));
+            x.undo();
+            CHECK.holds("the other way by undo", tale(x).equals(other));
+        }
+    }
+
     private static void historyAfterErrors() {
         CHECK.part("a failed change drops nothing");
         EchoBids x = new EchoBids();
@@ -970,6 +1088,8 @@ public final class PromisesTest {
         promise19();
         promise20();
         promise21();
+        undoesEachChange();
+        restoresAll();
         historyAfterErrors();
         promise22();
         promise23();
