@@ -571,6 +571,7 @@ public final class EchoBids {
             boolean ended = false;
             if (lot != null) {
                 takeBids(lot);
+                echoRound(lot);
                 ended = lot.still >= settingAt(QUIET) + settingAt(LAG);
                 if (ended) {
                     endLot(lot);
@@ -617,7 +618,6 @@ public final class EchoBids {
             }
             lot.ran++;
             lot.still = quiet ? lot.still + 1 : 0;
-            echoRound(lot);
         }
 
         /** Answers 0 for no bid. */

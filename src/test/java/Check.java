@@ -21,6 +21,10 @@ final class Check {
         due(what, held ? 1 : 0, 1);
     }
 
+    int answers() {
+        return right + wrong;
+    }
+
     boolean failed() {
         return wrong > 0;
     }

@@ -9,58 +9,6 @@ public final class PromisesTest {
         CHECK.due(call, got, want);
     }
 
-    /** A hall with these settings. */
-    private static EchoBids hall(int lag, int step, int quiet, int price) {
-        EchoBids x = new EchoBids();
-        x.set(EchoBids.LAG, lag);
-        x.set(EchoBids.STEP, step);
-        x.set(EchoBids.QUIET, quiet);
-        x.set(EchoBids.PRICE, price);
-        return x;
-    }
-
-    /** Two bidders who outbid one another by 1 each round: round k brings a bid of k + 1. */
-    private static EchoBids duel(int worth, int plan) {
-        EchoBids x = hall(0, 1, 1, 0);
-        x.bidder(9999, plan);
-        x.bidder(9999, plan);
-        x.lot(worth);
-        return x;
-    }
-
-    private static int putAll(EchoBids x, String text) {
-        int answer = 0;
-        for (int from = 0; from < text.length(); from += 8) {
-            long characters = 0;
-            for (int at = from; at < text.length() && at < from + 8; at++) {
-                characters = characters << 8 | text.charAt(at);
-            }
-            answer = x.put(characters);
-        }
-        return answer;
-    }
-
-    /** All that the object tells of what undo and saving bring back, and how it would go on. */
-    private static String tale(EchoBids x) {
-        StringBuilder text = new StringBuilder();
-        for (int what = 0; what < 12; what++) {
-            text.append(x.count(what)).append(' ');
-            for (int number = 0; number < 8; number++) {
-                text.append(x.of(number, what)).append(' ').append(x.ofLot(number, what)).append(' ');
-            }
-        }
-        for (int ago = 0; ago < 41; ago++) {
-            for (int what = 0; what < 4; what++) {
-                text.append(x.made(ago, what)).append(' ');
-            }
-        }
-        text.append(x.shadows()).append(' ').append(x.dear()).append(' ').append(x.endsIn());
-        for (int lag = 0; lag < 6; lag++) {
-            text.append(' ').append(x.ifLag(lag)).append(' ').append(x.bestPlan(lag, 0)).append(' ').append(x.bestPlan(lag, 1));
-        }
-        return text.toString();
-    }
-
     private static void constants() {
         CHECK.part("constants");
         long[] got = {EchoBids.NO_SUCH, EchoBids.BAD_VALUE, EchoBids.BAD_TEXT, EchoBids.TOO_MANY,
@@ -188,7 +136,7 @@ public final class PromisesTest {
 
     private static void promise7() {
         CHECK.part("promise 7");
-        EchoBids x = hall(0, 1, 1, 0);
+        EchoBids x = Halls.hall(0, 1, 1, 0);
         due("pass(0)", x.pass(0), BAD_VALUE);
         due("pass(100)", x.pass(100), BAD_VALUE);
         due("pass(-1)", x.pass(-1), BAD_VALUE);
@@ -214,7 +162,7 @@ public final class PromisesTest {
     /** LAG 0: 10 and 10; then B 20; then A 30; then quiet. */
     private static void firstPrice() {
         CHECK.part("first price");
-        EchoBids x = hall(0, 10, 1, 0);
+        EchoBids x = Halls.hall(0, 10, 1, 0);
         x.bidder(100, 100);
         x.bidder(100, 100);
         x.lot(35);
@@ -245,7 +193,7 @@ public final class PromisesTest {
 
     private static void secondPrice() {
         CHECK.part("second price");
-        EchoBids x = hall(0, 7, 1, 1);
+        EchoBids x = Halls.hall(0, 7, 1, 1);
         x.bidder(100, 0);
         x.bidder(100, 0);
         x.bidder(100, 0);
@@ -282,7 +230,7 @@ public final class PromisesTest {
     private static void lags() {
         CHECK.part("lags");
         for (int lag = 0; lag <= 5; lag++) {
-            EchoBids x = hall(lag, 5, 9, 0);
+            EchoBids x = Halls.hall(lag, 5, 9, 0);
             x.bidder(9999, 0);
             x.bidder(9999, 0);
             x.lot(100);
@@ -300,7 +248,7 @@ public final class PromisesTest {
     /** What was heard with a short LAG is not heard with a longer one, and the other way round. */
     private static void lagChanges() {
         CHECK.part("a new LAG");
-        EchoBids x = hall(5, 1, 9, 0);
+        EchoBids x = Halls.hall(5, 1, 9, 0);
         x.bidder(9999, 0);
         x.bidder(9999, 0);
         x.lot(100);
@@ -316,7 +264,7 @@ public final class PromisesTest {
 
     private static void limits() {
         CHECK.part("limits");
-        EchoBids x = hall(0, 10, 1, 0);
+        EchoBids x = Halls.hall(0, 10, 1, 0);
         x.bidder(100, 50);
         x.lot(19);
         x.lot(20);
@@ -327,14 +275,14 @@ public final class PromisesTest {
         due("no buyer", x.ofLot(0, 2), NONE);
         due("10 is not above 10", x.pass(2), 1);
         due("sold", x.ofLot(1, 3), 10);
-        x = hall(0, 10, 1, 0);
+        x = Halls.hall(0, 10, 1, 0);
         x.bidder(9, 200);
         x.bidder(10, 200);
         x.lot(999);
         x.pass(1);
         due("the purse is a limit", x.count(6), 1);
         due("B's", x.made(0, 0), 1);
-        x = hall(0, 10, 1, 0);
+        x = Halls.hall(0, 10, 1, 0);
         x.bidder(9999, 100);
         x.bidder(9999, 99);
         x.lot(20);
@@ -346,7 +294,7 @@ public final class PromisesTest {
         CHECK.part("quiet");
         for (int lag = 0; lag <= 5; lag++) {
             for (int quiet = 1; quiet <= 9; quiet++) {
-                EchoBids x = hall(lag, 5, quiet, 0);
+                EchoBids x = Halls.hall(lag, 5, quiet, 0);
                 x.bidder(100, 0);
                 x.lot(1);
                 due("without a bid", x.endsIn(), quiet + lag);
@@ -354,7 +302,7 @@ public final class PromisesTest {
                 due("with one", x.endsIn(), quiet + lag + 1);
             }
         }
-        EchoBids x = hall(5, 5, 9, 0);
+        EchoBids x = Halls.hall(5, 5, 9, 0);
         x.bidder(100, 0);
         x.lot(1);
         x.bid(0, 1);
@@ -370,7 +318,7 @@ public final class PromisesTest {
     /** LAG 1: all bid 5; B and C, who hear A's, 10; A hears B's 10 when B bid 60. */
     private static void shadowRules() {
         CHECK.part("shadow rules");
-        EchoBids x = hall(1, 5, 2, 0);
+        EchoBids x = Halls.hall(1, 5, 2, 0);
         x.bidder(200, 100);
         x.bidder(150, 80);
         x.bidder(90, 200);
@@ -391,7 +339,7 @@ public final class PromisesTest {
         due("a shadow", x.made(0, 3), 1);
         due("A's ahead of it", x.made(1, 0), 0);
         due("B's 60 is none", x.made(2, 3), 0);
-        x = hall(0, 5, 9, 0);
+        x = Halls.hall(0, 5, 9, 0);
         x.bidder(99, 0);
         x.bidder(99, 0);
         x.lot(1);
@@ -407,7 +355,7 @@ public final class PromisesTest {
 
     private static void ties() {
         CHECK.part("ties");
-        EchoBids x = hall(0, 5, 9, 0);
+        EchoBids x = Halls.hall(0, 5, 9, 0);
         for (int b = 0; b < 4; b++) {
             x.bidder(99, 0);
         }
@@ -431,7 +379,7 @@ public final class PromisesTest {
 
     private static void lotAfterLot() {
         CHECK.part("lot after lot");
-        EchoBids x = hall(0, 5, 1, 0);
+        EchoBids x = Halls.hall(0, 5, 1, 0);
         x.bidder(99, 0);
         x.lot(1);
         x.lot(2);
@@ -460,7 +408,7 @@ public final class PromisesTest {
 
     private static void promise8() {
         CHECK.part("promise 8");
-        EchoBids x = hall(0, 5, 1, 0);
+        EchoBids x = Halls.hall(0, 5, 1, 0);
         due("of(0, 99)", x.of(0, 99), NO_SUCH);
         x.bidder(90, 10);
         x.bidder(80, 20);
@@ -495,7 +443,7 @@ public final class PromisesTest {
 
     private static void promise9() {
         CHECK.part("promise 9");
-        EchoBids x = hall(0, 5, 1, 0);
+        EchoBids x = Halls.hall(0, 5, 1, 0);
         due("ofLot(0, 99)", x.ofLot(0, 99), NO_SUCH);
         x.bidder(90, 0);
         x.bidder(90, 0);
@@ -528,7 +476,7 @@ public final class PromisesTest {
 
     private static void promise10() {
         CHECK.part("promise 10");
-        EchoBids x = duel(500, 200);
+        EchoBids x = Halls.duel(500, 200);
         due("made(0, 9)", x.made(0, 9), NO_SUCH);
         x.pass(60);
         due("made(-1, 0)", x.made(-1, 0), NO_SUCH);
@@ -543,7 +491,7 @@ public final class PromisesTest {
             due("round " + ago, x.made(ago, 2), 59 - ago);
             due("shadow " + ago, x.made(ago, 3), 0);
         }
-        x = hall(0, 5, 1, 0);
+        x = Halls.hall(0, 5, 1, 0);
         x.bidder(99, 0);
         x.bidder(99, 0);
         x.lot(5);
@@ -557,7 +505,7 @@ public final class PromisesTest {
 
     private static void promise11() {
         CHECK.part("promise 11");
-        EchoBids x = hall(3, 7, 4, 1);
+        EchoBids x = Halls.hall(3, 7, 4, 1);
         due("count(-1)", x.count(-1), BAD_VALUE);
         due("count(14)", x.count(14), BAD_VALUE);
         due("count(least)", x.count(LEAST_INT), BAD_VALUE);
@@ -572,7 +520,7 @@ public final class PromisesTest {
         x.pass(7);
         x.pass(7);
         x.pass(2);
-        putAll(x, "t1;t");
+        Halls.putAll(x, "t1;t");
         int[] want = {17, 2, 3, 2, 1, 27, 2, 1, 3, 7, 4, 1, 4, 6};
         for (int what = 0; what < 14; what++) {
             due("count(" + what + ")", x.count(what), want[what]);
@@ -581,7 +529,7 @@ public final class PromisesTest {
 
     private static void promise12() {
         CHECK.part("promise 12");
-        EchoBids x = hall(5, 1, 9, 0);
+        EchoBids x = Halls.hall(5, 1, 9, 0);
         due("without bids", x.shadows(), 0);
         x.bidder(9999, 0);
         x.lot(1);
@@ -598,7 +546,7 @@ public final class PromisesTest {
             shadows += shadow ? 1 : 0;
             due(shadows + " of " + bids, x.shadows(), Float.floatToIntBits((float) shadows / (float) bids));
         }
-        x = hall(5, 1, 9, 0);
+        x = Halls.hall(5, 1, 9, 0);
         x.bidder(9999, 0);
         x.lot(1);
         x.bid(0, 9999);
@@ -614,7 +562,7 @@ public final class PromisesTest {
         CHECK.part("promise 13");
         int[][] cases = {{1, 999}, {9999, 1}, {1, 1}, {3, 7}, {999, 999}, {1000, 999}, {4, 2}, {5000, 3}, {17, 16}, {7, 900}};
         for (int[] pair : cases) {
-            EchoBids x = hall(0, 1, 1, 0);
+            EchoBids x = Halls.hall(0, 1, 1, 0);
             due("without lots", x.dear(), 0L);
             x.bidder(9999, 0);
             x.lot(pair[1]);
@@ -626,7 +574,7 @@ public final class PromisesTest {
             due("a lot that nobody wants does not count", x.ofLot(1, 1), 3);
             due(pair[0] + " for " + pair[1], x.dear(), Double.doubleToLongBits((double) pair[0] / (double) pair[1]));
         }
-        EchoBids x = hall(0, 1, 1, 0);
+        EchoBids x = Halls.hall(0, 1, 1, 0);
         x.bidder(9999, 0);
         x.lot(0);
         x.lot(30);
@@ -654,13 +602,13 @@ public final class PromisesTest {
         due("it is told still", x.of(0, 9), 10);
         x.pass(4);
         due("over", x.endsIn(), NONE);
-        due("in 500", duel(499, 100).endsIn(), 500);
-        due("in 501", duel(500, 100).endsIn(), NONE);
+        due("in 500", Halls.duel(499, 100).endsIn(), 500);
+        due("in 501", Halls.duel(500, 100).endsIn(), NONE);
     }
 
     private static void promise15() {
         CHECK.part("promise 15");
-        EchoBids x = hall(0, 10, 1, 0);
+        EchoBids x = Halls.hall(0, 10, 1, 0);
         due("ifLag(-1)", x.ifLag(-1), BAD_VALUE);
         due("ifLag(6)", x.ifLag(6), BAD_VALUE);
         due("no lots", x.ifLag(5), 0);
@@ -674,7 +622,7 @@ public final class PromisesTest {
         due("nothing is recorded", x.count(13), 6);
         x.pass(5);
         due("what was paid does not count", x.ifLag(0), 10);
-        x = hall(0, 10, 1, 0);
+        x = Halls.hall(0, 10, 1, 0);
         x.bidder(100, 50);
         x.bidder(100, 50);
         x.lot(100);
@@ -685,13 +633,13 @@ public final class PromisesTest {
         due("ifLag(2)", x.ifLag(2), 50);
         x.set(EchoBids.STEP, 30);
         due("too dear", x.ifLag(5), 40);
-        due("in 1000 rounds", duel(999, 100).ifLag(0), 999);
-        due("in 1001 rounds", duel(500, 200).ifLag(0), 0);
+        due("in 1000 rounds", Halls.duel(999, 100).ifLag(0), 999);
+        due("in 1001 rounds", Halls.duel(500, 200).ifLag(0), 0);
     }
 
     /** Lots of no worth ahead of one of 999, for which bidder 1 has a plan; all end behind quiet rounds alone. */
     private static EchoBids queue(int worthless, int quiet, int plan) {
-        EchoBids x = hall(0, 1, quiet, 0);
+        EchoBids x = Halls.hall(0, 1, quiet, 0);
         x.bidder(9999, 0);
         x.bidder(9999, plan);
         for (int l = 0; l < worthless; l++) {
@@ -703,7 +651,7 @@ public final class PromisesTest {
 
     private static void promise16() {
         CHECK.part("promise 16");
-        EchoBids x = hall(0, 10, 1, 0);
+        EchoBids x = Halls.hall(0, 10, 1, 0);
         due("bestPlan(0, 9)", x.bestPlan(0, 9), NO_SUCH);
         x.bidder(100, 0);
         due("bestPlan(0, 2)", x.bestPlan(0, 2), BAD_VALUE);
@@ -727,7 +675,7 @@ public final class PromisesTest {
         x = queue(6, 6, 96);
         due("in 1001 rounds", x.bestPlan(0, 0), 0);
         due("no gain", x.bestPlan(0, 1), 100000);
-        x = hall(0, 10, 1, 0);
+        x = Halls.hall(0, 10, 1, 0);
         x.bidder(1000, 0);
         x.lot(5);
         due("200 is the greatest plan", x.bestPlan(0, 0), 0);
@@ -736,12 +684,12 @@ public final class PromisesTest {
         x.lot(100);
         due("99 of 100", x.bestPlan(0, 0), 100);
         due("1", x.bestPlan(0, 1), 100001);
-        x = hall(0, 1, 1, 0);
+        x = Halls.hall(0, 1, 1, 0);
         x.bidder(100, 0);
         x.lot(100);
         due("1 needs the plan 1, which is no multiple of 10", x.bestPlan(0, 0), 10);
         // Bidder 1 does best when it drives bidder 0 up to 1995, who has 5 left then for the lot of 100.
-        x = hall(0, 5, 1, 0);
+        x = Halls.hall(0, 5, 1, 0);
         x.bidder(2000, 200);
         x.bidder(9999, 0);
         x.lot(999);
@@ -783,10 +731,10 @@ public final class PromisesTest {
         CHECK.part("promise 18");
         EchoBids x = new EchoBids();
         due("wipe()", x.wipe(), 0);
-        putAll(x, "l5;l6");
+        Halls.putAll(x, "l5;l6");
         due("wipe()", x.wipe(), 5);
         due("wipe()", x.wipe(), 0);
-        putAll(x, "t1");
+        Halls.putAll(x, "t1");
         due("only what came since", x.fault(), NONE);
         due("no change", x.count(13), 0);
     }
@@ -801,7 +749,7 @@ public final class PromisesTest {
             7, 0, 0, 2, 3, 1, NONE, 8, 0, 0, 15, 7};
         for (int i = 0; i < texts.length; i++) {
             EchoBids x = new EchoBids();
-            putAll(x, texts[i].replace(' ', '!'));
+            Halls.putAll(x, texts[i].replace(' ', '!'));
             due("fault of " + texts[i], x.fault(), faults[i]);
             due("the pad stays", x.count(12), texts[i].length());
             due("carryOut of " + texts[i] + " fails or not", x.carryOut() == BAD_TEXT ? 1 : 0, faults[i] == NONE ? 0 : 1);
@@ -814,7 +762,7 @@ public final class PromisesTest {
         CHECK.part("promise 20");
         EchoBids x = new EchoBids();
         due("an empty pad", x.carryOut(), BAD_TEXT);
-        putAll(x, "+50*40;+60*0;l100;b1=33;t2;l0");
+        Halls.putAll(x, "+50*40;+60*0;l100;b1=33;t2;l0");
         due("six", x.carryOut(), 6);
         due("purse", x.of(0, 0), 50);
         due("plan", x.of(0, 1), 40);
@@ -824,11 +772,11 @@ public final class PromisesTest {
         due("lots", x.count(2), 2);
         due("one change", x.count(13), 1);
         due("an empty pad", x.count(12), 0);
-        putAll(x, "l7;b2=5;l8");
+        Halls.putAll(x, "l7;b2=5;l8");
         due("up to the first error", x.carryOut(), 1);
         due("lots", x.count(2), 3);
         due("a change", x.count(13), 2);
-        putAll(x, "t100;l8");
+        Halls.putAll(x, "t100;l8");
         due("none", x.carryOut(), 0);
         due("a change too", x.count(13), 3);
         due("undo()", x.undo(), 2);
@@ -838,7 +786,7 @@ public final class PromisesTest {
         due("nothing is there", x.count(1), 0);
         String[] wrong = {"+9999*201", "l1000", "b0=1", "t0", "t100"};
         for (String text : wrong) {
-            putAll(x, text + ";l1");
+            Halls.putAll(x, text + ";l1");
             due(text, x.carryOut(), 0);
         }
         due("none of them changed a thing", x.count(2), 0);
@@ -856,12 +804,12 @@ public final class PromisesTest {
         }
         due("undo()", x.undo(), NOT_POSSIBLE);
         due("two lots are left", x.count(2), 2);
-        x = hall(0, 5, 1, 0);
+        x = Halls.hall(0, 5, 1, 0);
         x.bidder(90, 100);
         x.bidder(90, 100);
         x.lot(50);
         x.pass(3);
-        putAll(x, "t1");
+        Halls.putAll(x, "t1");
         x.save(1);
         x.plan(0, 7);
         x.bid(0, 70);
@@ -892,15 +840,6 @@ public final class PromisesTest {
         due("rounds", x.count(0), 3);
     }
 
-    /** A hall in the middle of its third lot, with bids, shadows and told bids. */
-    private static EchoBids busy() {
-        EchoBids x = hall(2, 3, 4, 1);
-        putAll(x, "+900*90;+800*120;+50*200;l40;l60;l90;l20;b0=30;t30;b1=77;t30;b2=9;t7");
-        x.carryOut();
-        x.bid(1, 55);
-        return x;
-    }
-
     /** Another way that a hall may go on from any state: nearly all that it holds changes. */
     private static void goOn(EchoBids x) {
         x.set(EchoBids.LAG, 0);
@@ -918,62 +857,76 @@ public final class PromisesTest {
         x.bid(1, 9);
     }
 
+    private static void change(EchoBids x, int which) {
+        switch (which) {
+            case 0: x.bidder(1, 2); break;
+            case 1: x.plan(0, 1); break;
+            case 2: x.lot(999); break;
+            case 3: x.bid(0, 5); break;
+            case 4: x.pass(9); break;
+            case 5: Halls.carry(x, "t1;+4*4;l4;b1=4;t40"); break;
+            case 6: x.restore(0); break;
+            default: x.set(which - 7, which == 10 ? 0 : 5);
+        }
+    }
+
     private static void undoesEachChange() {
         CHECK.part("each change is undone");
-        EchoBids x = busy();
-        EchoBids same = busy();
-        for (int change = 0; change < 11; change++) {
-            // A round between two changes, so that no state that was recorded earlier is right by chance.
-            x.pass(1);
-            same.pass(1);
-            String before = tale(x);
-            x.save(0);
-            switch (change) {
-                case 0: x.bidder(1, 2); break;
-                case 1: x.plan(0, 1); break;
-                case 2: x.lot(999); break;
-                case 3: x.bid(0, 5); break;
-                case 4: x.pass(9); break;
-                case 5: putAll(x, "t1;+4*4;l4;b1=4;t40"); x.carryOut(); break;
-                case 6: x.pass(20); x.save(1); x.undo(); x.restore(1); break;
-                default: x.set(change - 7, change == 10 ? 0 : 5);
-            }
-            CHECK.holds("change " + change + " changes it", !tale(x).equals(before));
-            x.undo();
-            CHECK.holds("change " + change + " is undone", tale(x).equals(before));
-        }
-        goOn(x);
+        String before = Halls.tale(undisturbed());
+        EchoBids same = undisturbed();
         goOn(same);
-        CHECK.holds("it goes on as if nothing had been", tale(x).equals(tale(same)));
+        String after = Halls.tale(same);
+        for (int which = 0; which < 11; which++) {
+            EchoBids x = undisturbed();
+            change(x, which);
+            CHECK.holds("change " + which + " changes it", !Halls.tale(x).equals(before));
+            x.undo();
+            CHECK.holds("change " + which + " is undone", Halls.tale(x).equals(before));
+            x = undisturbed();
+            change(x, which);
+            x.undo();
+            goOn(x);
+            CHECK.holds("it goes on as if change " + which + " had not been", Halls.tale(x).equals(after));
+        }
+    }
+
+    private static EchoBids undisturbed() {
+        EchoBids x = Halls.busy();
+        x.wipe();
+        return x;
+    }
+
+    /** Two ways from one beginning, saved in a slot each, which then come back in turns; it stops behind so many steps. */
+    private static EchoBids twoWays(boolean far, int steps) {
+        EchoBids x = new EchoBids();
+        x.lot(1);
+        Halls.carry(x, "+1000*50;+2000*30;l40;l80;l160;t2");
+        x.save(0);
+        x.bid(0, 500);
+        x.pass(far ? 90 : 3);
+        x.save(1);
+        for (int step = 1; step <= steps; step++) {
+            switch (step) {
+                case 1: x.restore(0); goOn(x); goOn(x); x.save(0); break;
+                case 2: x.restore(1); break;
+                case 3: x.restore(0); break;
+                default: x.undo();
+            }
+        }
+        return x;
     }
 
     /** What was saved comes back over a state that is different everywhere. */
     private static void restoresAll() {
         CHECK.part("all of it is restored");
-        for (int first = 0; first < 2; first++) {
-            EchoBids x = new EchoBids();
-            x.lot(1);
-            putAll(x, "+1000*50;+2000*30;l40;l80;l160;t2");
-            x.carryOut();
-            x.save(0);
-            x.bid(0, 500);
-            x.pass(first == 0 ? 90 : 3);
-            x.save(1);
-            String one = tale(x);
-            x.restore(0);
-            goOn(x);
-            goOn(x);
-            String other = tale(x);
+        for (boolean far : new boolean[] {true, false}) {
+            String one = Halls.tale(twoWays(far, 0));
+            String other = Halls.tale(twoWays(far, 1));
             CHECK.holds("the two ways differ", !one.equals(other));
-            x.save(0);
-            x.restore(1);
-            CHECK.holds("the first way", tale(x).equals(one));
-            x.restore(0);
-            CHECK.holds("the other way", tale(x).equals(other));
-            x.undo();
-            CHECK.holds("the first way by undo", tale(x).equals(one));
-            x.undo();
-            CHECK.holds("the other way by undo", tale(x).equals(other));
+            CHECK.holds("the first way", Halls.tale(twoWays(far, 2)).equals(one));
+            CHECK.holds("the other way", Halls.tale(twoWays(far, 3)).equals(other));
+            CHECK.holds("the first way by undo", Halls.tale(twoWays(far, 4)).equals(one));
+            CHECK.holds("the other way by undo", Halls.tale(twoWays(far, 5)).equals(other));
         }
     }
 
@@ -1035,7 +988,7 @@ public final class PromisesTest {
         x.set(EchoBids.LAG, 5);
         x.bidder(1, 1);
         x.lot(3);
-        putAll(x, "l1");
+        Halls.putAll(x, "l1");
         due("restore(1)", x.restore(1), NOT_POSSIBLE);
         due("restore(0)", x.restore(0), 1);
         due("bidders", x.count(1), 2);
