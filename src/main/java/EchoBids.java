@@ -855,7 +855,6 @@ public final class EchoBids {
                 return false;
             }
             kind = sign();
-            second = 0;
             switch (kind) {
                 case '+':
                     at++;

@@ -450,8 +450,25 @@ public final class CallEdgesTest {
         due("count(12)", x.count(12), 0);
         x.put('x');
         due("one", x.wipe(), 1);
-        due("nothing of what was there comes back", Halls.putAll(x, "t1"), 2);
+        due("the next ones begin anew", Halls.putAll(x, "t1"), 2);
         due("fault()", x.fault(), NONE);
+        CHECK.part("promise 18: nothing of what was there is read behind the new end");
+        String[][] pairs = {{"t1234", "t1"}, {"t9;l7;l8", "t1"}, {"b1=5", "b1="}, {"+1*2", "+1"}, {"t1", "t"}, {"l5;l5", "l5;"}};
+        int[] faults = {NONE, NONE, 3, 2, 1, 3};
+        for (int at = 0; at < pairs.length; at++) {
+            x = new EchoBids();
+            Halls.putAll(x, pairs[at][0]);
+            x.wipe();
+            Halls.putAll(x, pairs[at][1]);
+            due(pairs[at][1] + " behind " + pairs[at][0], x.fault(), faults[at]);
+            due("orders", x.carryOut(), faults[at] == NONE ? 1 : BAD_TEXT);
+            due("rounds", x.count(0), faults[at] == NONE ? 1 : 0);
+        }
+        CHECK.part("promise 20: nothing of what was carried out is read behind the new end");
+        x = new EchoBids();
+        Halls.carry(x, "t1234");
+        Halls.carry(x, "t1");
+        due("rounds", x.count(0), 1);
     }
 
     private static int faultOf(String text) {
