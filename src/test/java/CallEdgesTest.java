@@ -368,8 +368,8 @@ public final class CallEdgesTest {
         x = Halls.planless(1, 0);
         due("no lots, the plan", x.bestPlan(0, 0), 0);
         due("no lots, the gain", x.bestPlan(0, 1), 100000);
-        due("a plan of 200 is tried", bestRival(0), 200);
-        due("100 less 10", bestRival(1), 100090);
+        due("a plan of 200 is tried", Halls.rivals().bestPlan(1, 0), 200);
+        due("100 less 10", Halls.rivals().bestPlan(1, 1), 100090);
         CHECK.part("promise 16: multiples of 10, of several the least one");
         due("STEP 1 of 100 needs 1", bestFor(1), 10);
         due("STEP 10 of 100 needs 10", bestFor(10), 10);
@@ -386,18 +386,8 @@ public final class CallEdgesTest {
         x.pass(1);
         due("all is over", x.bestPlan(0, 1), 100000);
         CHECK.part("promise 16: within 1000 rounds");
-        due("1000", longSale(2, 7, 98, 1), 100020);
-        due("1001", longSale(6, 6, 96, 1), 100000);
-    }
-
-    /** Bidder 1 does best when it drives bidder 0 up to 1995, who has 5 of 2000 left then for the lot of 100. */
-    private static int bestRival(int what) {
-        EchoBids x = Halls.hall(0, 5, 1, 0);
-        x.bidder(2000, 200);
-        x.bidder(9999, 0);
-        x.lot(999);
-        x.lot(100);
-        return x.bestPlan(1, what);
+        due("1000", Halls.queue(2, 7, 98).bestPlan(0, 1), 100020);
+        due("1001", Halls.queue(6, 6, 96).bestPlan(0, 1), 100000);
     }
 
     private static int bestFor(int step) {
@@ -405,17 +395,6 @@ public final class CallEdgesTest {
         x.bidder(9999, 0);
         x.lot(100);
         return x.bestPlan(0, 0);
-    }
-
-    private static int longSale(int worthless, int quiet, int plan, int what) {
-        EchoBids x = Halls.hall(0, 1, quiet, 0);
-        x.bidder(9999, 0);
-        x.bidder(9999, plan);
-        for (int l = 0; l < worthless; l++) {
-            x.lot(0);
-        }
-        x.lot(999);
-        return x.bestPlan(0, what);
     }
 
     private static void pad() {

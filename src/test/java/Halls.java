@@ -34,6 +34,28 @@ final class Halls {
         return x;
     }
 
+    /** Lots of no worth ahead of one of 999, for which bidder 1 has a plan; all end behind quiet rounds alone. */
+    static EchoBids queue(int worthless, int quiet, int plan) {
+        EchoBids x = hall(0, 1, quiet, 0);
+        x.bidder(9999, 0);
+        x.bidder(9999, plan);
+        for (int l = 0; l < worthless; l++) {
+            x.lot(0);
+        }
+        x.lot(999);
+        return x;
+    }
+
+    /** Bidder 1 does best when it drives bidder 0 up to 1995, who has 5 of 2000 left then for the lot of 100. */
+    static EchoBids rivals() {
+        EchoBids x = hall(0, 5, 1, 0);
+        x.bidder(2000, 200);
+        x.bidder(9999, 0);
+        x.lot(999);
+        x.lot(100);
+        return x;
+    }
+
     /** A hall in the middle of its third lot of four, with bids, shadows, a bid that is told, a slot and a pad. */
     static EchoBids busy() {
         EchoBids x = hall(2, 3, 4, 1);

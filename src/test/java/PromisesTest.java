@@ -637,18 +637,6 @@ public final class PromisesTest {
         due("in 1001 rounds", Halls.duel(500, 200).ifLag(0), 0);
     }
 
-    /** Lots of no worth ahead of one of 999, for which bidder 1 has a plan; all end behind quiet rounds alone. */
-    private static EchoBids queue(int worthless, int quiet, int plan) {
-        EchoBids x = Halls.hall(0, 1, quiet, 0);
-        x.bidder(9999, 0);
-        x.bidder(9999, plan);
-        for (int l = 0; l < worthless; l++) {
-            x.lot(0);
-        }
-        x.lot(999);
-        return x;
-    }
-
     private static void promise16() {
         CHECK.part("promise 16");
         EchoBids x = Halls.hall(0, 10, 1, 0);
@@ -669,10 +657,10 @@ public final class PromisesTest {
         due("all plans are as good", x.bestPlan(0, 0), 0);
         x.pass(2);
         due("the loss is no part of it then", x.bestPlan(0, 1), 100000);
-        x = queue(2, 7, 98);
+        x = Halls.queue(2, 7, 98);
         due("in 1000 rounds", x.bestPlan(0, 0), 100);
         due("999 less 979", x.bestPlan(0, 1), 100020);
-        x = queue(6, 6, 96);
+        x = Halls.queue(6, 6, 96);
         due("in 1001 rounds", x.bestPlan(0, 0), 0);
         due("no gain", x.bestPlan(0, 1), 100000);
         x = Halls.hall(0, 10, 1, 0);
@@ -688,12 +676,7 @@ public final class PromisesTest {
         x.bidder(100, 0);
         x.lot(100);
         due("1 needs the plan 1, which is no multiple of 10", x.bestPlan(0, 0), 10);
-        // Bidder 1 does best when it drives bidder 0 up to 1995, who has 5 left then for the lot of 100.
-        x = Halls.hall(0, 5, 1, 0);
-        x.bidder(2000, 200);
-        x.bidder(9999, 0);
-        x.lot(999);
-        x.lot(100);
+        x = Halls.rivals();
         due("the greatest plan", x.bestPlan(1, 0), 200);
         due("100 less 10", x.bestPlan(1, 1), 100090);
     }

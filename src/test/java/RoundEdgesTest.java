@@ -473,6 +473,16 @@ public final class RoundEdgesTest {
         return x.ofLot(0, 3);
     }
 
+    /** The second price, with STEP 7, in a hall where nobody else could bid. */
+    private static int priceAlone(int coins) {
+        EchoBids x = Halls.hall(0, 7, 1, 1);
+        x.bidder(9999, 0);
+        x.lot(100);
+        x.bid(0, coins);
+        x.pass(2);
+        return x.ofLot(0, 3);
+    }
+
     private static void prices() {
         CHECK.part("PRICE 0: that bid");
         due("alone", price(0, 60, 0), 60);
@@ -491,6 +501,9 @@ public final class RoundEdgesTest {
         due("7 alone", price(1, 7, 0), 7);
         due("6 alone", price(1, 6, 0), 6);
         due("1 alone", price(1, 1, 0), 1);
+        due("8 of one bidder in all", priceAlone(8), 7);
+        due("7 of one bidder in all", priceAlone(7), 7);
+        due("6 of one bidder in all", priceAlone(6), 6);
         CHECK.part("a lot without a bid has no price");
         EchoBids x = Halls.planless(1, 1);
         x.pass(1);
